@@ -1,0 +1,144 @@
+import java.util.NoSuchElementException;
+
+/** Promises 20 (averageWait), 22 (usage), 23 (utilization), 24 (makespan), 32 (blockStarts) and 33 (busiestBlock). */
+final class StatisticsTest {
+    static void run(Check check) {
+        averageOfWaits(check);
+        usages(check);
+        utilizations(check);
+        makespans(check);
+        startsOfBlocks(check);
+        busiest(check);
+    }
+
+    private static void averageOfWaits(Check check) {
+        BuddyBlockScheduler x = new BuddyBlockScheduler();
+        check.fails("20: no job", ArithmeticException.class, x::averageWait);
+        x.reserve(5, 0, 1);
+        x.submit(0, 5, 1, 1);
+        check.fails("20: no job was started", ArithmeticException.class, x::averageWait);
+        x.cancel(0);
+        check.fails("20: a job that never started", ArithmeticException.class, x::averageWait);
+        x.submit(0, 5, 3, 3);
+        x.submit(0, 5, 3, 3);
+        x.submit(0, 5, 3, 3);
+        x.submit(0, 5, 3, 3);
+        x.advance(1);
+        check.same("20: one job", x.averageWait(), 1.0);
+        x.advance(3);
+        check.same("20: two jobs", x.averageWait(), 2.5);
+        x.advance(3);
+        check.same("20: three jobs", x.averageWait(), 12.0 / 3.0);
+        x.cancel(3);
+        check.same("20: four jobs, one cancelled", x.averageWait(), 19.0 / 4.0);
+    }
+
+    private static void usages(Check check) {
+        BuddyBlockScheduler x = new BuddyBlockScheduler();
+        for (int user : new int[] {-1, 4, Integer.MAX_VALUE, Integer.MIN_VALUE}) {
+            check.outside("22: usage(" + user + ")", () -> x.usage(user));
+        }
+        x.submit(2, 3, 9, 5);
+        x.submit(2, 0, 9, 9);
+        x.submit(3, 1, 9, 9);
+        x.submit(1, 5, 9, 9);
+        check.same("22: the current unit does not count", x.usage(2), 0);
+        x.advance(4);
+        check.same("22: two jobs", x.usage(2), 4 * 8 + 4);
+        check.same("22: one job", x.usage(3), 8);
+        check.same("22: a waiting job", x.usage(1), 0);
+        check.same("22: no job", x.usage(0), 0);
+        x.advance(4);
+        check.same("22: a finished job", x.usage(2), 5 * 8 + 8);
+    }
+
+    private static void utilizations(Check check) {
+        BuddyBlockScheduler x = new BuddyBlockScheduler();
+        check.fails("23: at 0", ArithmeticException.class, x::utilization);
+        x.submit(0, 4, 3, 3);
+        x.submit(1, 2, 9, 9);
+        x.submit(3, 0, 1, 1);
+        check.fails("23: at 0 with jobs", ArithmeticException.class, x::utilization);
+        x.advance(3);
+        check.same("23: at 3", x.utilization(), 61.0 / 96.0);
+        x.advance(4);
+        check.same("23: at 7", x.utilization(), 77.0 / 224.0);
+        BuddyBlockScheduler y = new BuddyBlockScheduler();
+        y.advance(1);
+        check.same("23: without jobs", y.utilization(), 0.0);
+        BuddyBlockScheduler z = new BuddyBlockScheduler();
+        z.submit(0, 5, 9, 9);
+        z.advance(9);
+        check.same("23: full", z.utilization(), 1.0);
+    }
+
+    private static void makespans(Check check) {
+        BuddyBlockScheduler x = new BuddyBlockScheduler();
+        x.reserve(5, 20, 9);
+        check.same("24: reservations do not count", x.makespan(), 0);
+        x.submit(0, 5, 7, 3);
+        check.same("24: the whole estimate", x.makespan(), 7);
+        x.submit(0, 5, 20, 20);
+        check.same("24: a waiting job", x.makespan(), 49);
+        x.advance(3);
+        check.same("24: replanned", x.makespan(), 49);
+        x.cancel(1);
+        check.same("24: at least the clock", x.makespan(), 3);
+    }
+
+    private static void startsOfBlocks(Check check) {
+        BuddyBlockScheduler x = new BuddyBlockScheduler();
+        int[][] wrong = {
+            {-1, 0}, {6, 0}, {0, -1}, {0, 32}, {1, 1}, {2, 2}, {3, 12}, {4, 8}, {5, 1}, {5, 16}, {5, 32},
+            {1, 31}, {4, -16}, {Integer.MIN_VALUE, 0}, {Integer.MAX_VALUE, 0}, {0, Integer.MAX_VALUE},
+            {5, Integer.MIN_VALUE}, {32, 0},
+        };
+        for (int[] w : wrong) {
+            check.bad("32: blockStarts" + java.util.Arrays.toString(w), () -> x.blockStarts(w[0], w[1]));
+        }
+        for (int order = 0; order < 6; order++) {
+            for (int first = 0; first < 32; first += 1 << order) {
+                check.same("32: none at first", x.blockStarts(order, first), 0);
+            }
+        }
+        x.submit(0, 2, 2, 2);
+        x.submit(0, 2, 5, 5);
+        x.submit(0, 0, 5, 5);
+        x.submit(0, 5, 1, 1);
+        check.same("32: first block", x.blockStarts(2, 0), 1);
+        check.same("32: second block", x.blockStarts(2, 4), 1);
+        check.same("32: the order counts", x.blockStarts(3, 0), 0);
+        check.same("32: order 0", x.blockStarts(0, 8), 1);
+        check.same("32: a planned start is no start", x.blockStarts(5, 0), 0);
+        x.preempt(1, 0);
+        check.same("32: each start counts", x.blockStarts(2, 4), 2);
+        x.cancel(1);
+        check.same("32: cancelled jobs count", x.blockStarts(2, 4), 2);
+        x.advance(6);
+        check.same("32: order 5", x.blockStarts(5, 0), 1);
+        check.same("32: finished jobs count", x.blockStarts(2, 0), 1);
+    }
+
+    private static void busiest(Check check) {
+        BuddyBlockScheduler x = new BuddyBlockScheduler();
+        check.fails("33: no job", NoSuchElementException.class, x::busiestBlock);
+        x.reserve(5, 0, 1);
+        x.submit(0, 4, 9, 9);
+        check.fails("33: no start", NoSuchElementException.class, x::busiestBlock);
+        x.advance(1);
+        check.same("33: one start", x.busiestBlock(), 400);
+        x.submit(0, 3, 9, 9);
+        check.same("33: the lowest order", x.busiestBlock(), 316);
+        x.submit(0, 3, 9, 9);
+        check.same("33: the lowest processor", x.busiestBlock(), 316);
+        x.preempt(2, 0);
+        check.same("33: most starts", x.busiestBlock(), 324);
+        x.preempt(0, 0);
+        check.same("33: the lowest order of two", x.busiestBlock(), 324);
+        x.preempt(0, 0);
+        check.same("33: most starts again", x.busiestBlock(), 400);
+        BuddyBlockScheduler y = new BuddyBlockScheduler();
+        y.submit(0, 0, 9, 9);
+        check.same("33: block 0 of order 0", y.busiestBlock(), 0);
+    }
+}
