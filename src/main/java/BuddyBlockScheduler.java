@@ -251,11 +251,11 @@ public final class BuddyBlockScheduler {
             throw new IndexOutOfBoundsException("there is no such order");
         }
         int taken = takenNow();
-        int size = 1 << order;
         int number = 0;
-        for (int first = 0; first < PROCESSORS; first += size) {
-            boolean insideLarger = order < MAX_ORDER && isClear(taken, order + 1, first & ~size);
-            if (isClear(taken, order, first) && !insideLarger) {
+        for (int i = 0; i < PROCESSORS >> order; i++) {
+            // Half of the number names the block of the next order that contains this one.
+            boolean insideLarger = order < MAX_ORDER && isClear(taken, order + 1, i >> 1);
+            if (isClear(taken, order, i) && !insideLarger) {
                 number++;
             }
         }
@@ -308,7 +308,8 @@ public final class BuddyBlockScheduler {
         int most = 0;
         int busiest = NONE;
         for (int order = 0; order <= MAX_ORDER; order++) {
-            for (int first = 0; first < PROCESSORS; first += 1 << order) {
+            for (int i = 0; i < PROCESSORS >> order; i++) {
+                int first = i << order;
                 int number = cluster.starts[blockIndex(order, first)];
                 if (number > most) {
                     most = number;
@@ -423,15 +424,16 @@ public final class BuddyBlockScheduler {
         return (PROCESSORS + first) >> order;
     }
 
-    private static boolean isClear(int taken, int order, int first) {
-        return (taken & blockMask(order, first)) == 0;
+    /** Whether the i-th block of an order, counted from 0, has none of the taken processors. */
+    private static boolean isClear(int taken, int order, int i) {
+        return (taken & blockMask(order, i << order)) == 0;
     }
 
     private static int lowestClear(int taken, int order) {
-        int size = 1 << order;
-        int lowestMask = blockMask(order, 0);
-        for (int first = 0; first < PROCESSORS; first += size) {
-            if ((taken & (lowestMask << first)) == 0) {
+        int lowest = blockMask(order, 0);
+        for (int i = 0; i < PROCESSORS >> order; i++) {
+            int first = i << order;
+            if ((taken & lowest << first) == 0) {
                 return first;
             }
         }
@@ -488,7 +490,7 @@ public final class BuddyBlockScheduler {
             return lowestClear(takenIn(start, start + length - 1), order);
         }
 
-        /** Only the clock and the ends of allocations can be earliest starts: a block gets free at these alone. */
+        /** Tries the clock and the ends of allocations alone: at no other unit does a block become free. */
         int earliest(int order, int clock, int length) {
             int start = clock;
             for (int tries = 0; tries < SLOTS; tries++) {
