@@ -433,7 +433,7 @@ public final class BuddyBlockScheduler {
         int lowest = blockMask(order, 0);
         for (int i = 0; i < PROCESSORS >> order; i++) {
             int first = i << order;
-            if ((taken & lowest << first) == 0) {
+            if ((taken & (lowest << first)) == 0) {
                 return first;
             }
         }
@@ -517,7 +517,7 @@ public final class BuddyBlockScheduler {
         int slotAt(int processor, int unit) {
             for (int slot = 0; slot < SLOTS; slot++) {
                 boolean covers = from[slot] <= unit && unit < until[slot];
-                if (covers && (mask[slot] >>> processor & 1) != 0) {
+                if (covers && ((mask[slot] >>> processor) & 1) != 0) {
                     return slot;
                 }
             }
@@ -567,7 +567,7 @@ public final class BuddyBlockScheduler {
             return firstStartedAt[job] - submittedAt[job];
         }
 
-        /** Sets every field of the new job: after a restore its row may hold a job that is no more. */
+        /** Sets every field of the new job, so that it does not matter what its row held before. */
         int append(int itsUser, int itsOrder, int itsEstimate, int itsRun, int clock) {
             int job = count;
             user[job] = itsUser;

@@ -8,6 +8,7 @@ final class AdvanceTest {
         startsInTheTickOfThePlannedStart(check);
         replansByPlannedStart(check);
         movesToALowerBlockWithTheSameStart(check);
+        noReplanningInAQuietTick(check);
     }
 
     private static void ranges(Check check) {
@@ -101,5 +102,22 @@ final class AdvanceTest {
         check.same("3: same start", x.startTime(1), 5);
         check.same("3: lower processor", x.firstProcessor(1), 0);
         check.same("35: no event of moving", x.eventCount(), 3);
+    }
+
+    /** After the replanning of the cancelling there is a better start for job 2, but nothing finishes at 5. */
+    private static void noReplanningInAQuietTick(Check check) {
+        BuddyBlockScheduler x = new BuddyBlockScheduler();
+        x.submit(0, 4, 12, 12);
+        x.submit(0, 4, 7, 7);
+        x.submit(0, 4, 10, 10);
+        x.submit(0, 4, 2, 2);
+        x.advance(4);
+        x.cancel(0);
+        check.same("3: the long one does not fit yet", x.startTime(2), 7);
+        check.same("3: the short one starts", x.startTime(3), 4);
+        check.same("3: a tick in which nothing finishes", x.advance(1), 0);
+        check.same("3: nothing was replanned", x.startTime(2), 7);
+        check.same("3: the short one finishes", x.advance(1), 1);
+        check.same("3: now it is replanned", x.startTime(2), 6);
     }
 }

@@ -121,6 +121,14 @@ final class BlocksTest {
         check.same("30: not before the clock", x.earliestStart(0, 1), 2);
         check.same("30: the clock counts", x.earliestStart(5, 3), 15);
         check.same("30: changes nothing", x.jobCount(), 0);
+        BuddyBlockScheduler y = new BuddyBlockScheduler();
+        for (int i = 0; i < 24; i++) {
+            check.same("30: one behind the other", y.submit(0, 5, 1, 1), i);
+        }
+        for (int i = 0; i < 6; i++) {
+            check.same("30: thirty allocations", y.reserve(5, 24 + i, 1), i);
+        }
+        check.same("30: behind thirty allocations", y.earliestStart(0, 40), 30);
     }
 
     private static void lowest(Check check) {

@@ -42,6 +42,8 @@ final class FairnessTest {
         check.same("10: first", x.startTime(1), 2);
         check.same("10: second", x.startTime(2), 2);
         check.same("10: third", x.startTime(3), 8);
+        check.same("10: of equal planned starts the lower number first", x.firstProcessor(1), 0);
+        check.same("10: the higher number behind it", x.firstProcessor(2), 16);
     }
 
     private static void equalUsageGoesByPlannedStart(Check check) {

@@ -31,6 +31,12 @@ final class StatisticsTest {
         check.same("20: three jobs", x.averageWait(), 12.0 / 3.0);
         x.cancel(3);
         check.same("20: four jobs, one cancelled", x.averageWait(), 19.0 / 4.0);
+        BuddyBlockScheduler y = new BuddyBlockScheduler();
+        y.submit(0, 5, 3, 3);
+        check.same("20: no wait", y.averageWait(), 0.0);
+        y.submit(0, 5, 3, 3);
+        y.advance(3);
+        check.same("20: with the first job", y.averageWait(), 1.5);
     }
 
     private static void usages(Check check) {
@@ -50,6 +56,14 @@ final class StatisticsTest {
         check.same("22: no job", x.usage(0), 0);
         x.advance(4);
         check.same("22: a finished job", x.usage(2), 5 * 8 + 8);
+        BuddyBlockScheduler y = new BuddyBlockScheduler();
+        for (int job = 0; job < 24; job++) {
+            y.submit(job % 4, 0, 2, 2);
+        }
+        y.advance(1);
+        for (int user = 0; user < 4; user++) {
+            check.same("22: six of 24 jobs", y.usage(user), 6);
+        }
     }
 
     private static void utilizations(Check check) {
@@ -140,5 +154,13 @@ final class StatisticsTest {
         BuddyBlockScheduler y = new BuddyBlockScheduler();
         y.submit(0, 0, 9, 9);
         check.same("33: block 0 of order 0", y.busiestBlock(), 0);
+        BuddyBlockScheduler z = new BuddyBlockScheduler();
+        z.submit(0, 5, 9, 9);
+        check.same("33: order 5", z.busiestBlock(), 500);
+        z.cancel(0);
+        z.submit(0, 4, 9, 9);
+        z.submit(0, 4, 9, 9);
+        z.preempt(2, 0);
+        check.same("33: the last block of order 4", z.busiestBlock(), 416);
     }
 }
