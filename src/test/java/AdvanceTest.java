@@ -1,44 +1,10 @@
-/** Promises 3 (advance) and 11 (clock). */
+/** Promise 3 (advance): ordinary ticks; the edges stand in AdvanceEdges. */
 final class AdvanceTest {
     static void run(Check check) {
-        ranges(check);
-        clockStopsAtThousand(check);
         countsFinishedJobs(check);
         replansOnlyWhenAJobFinishes(check);
         startsInTheTickOfThePlannedStart(check);
         replansByPlannedStart(check);
-        movesToALowerBlockWithTheSameStart(check);
-        noReplanningInAQuietTick(check);
-    }
-
-    private static void ranges(Check check) {
-        BuddyBlockScheduler x = new BuddyBlockScheduler();
-        for (int ticks : new int[] {0, -1, 51, Integer.MAX_VALUE, Integer.MIN_VALUE}) {
-            check.bad("3: advance(" + ticks + ")", () -> x.advance(ticks));
-        }
-        check.same("11: clock", x.clock(), 0);
-        check.same("3: advance(1)", x.advance(1), 0);
-        check.same("3: advance(50)", x.advance(50), 0);
-        check.same("11: clock later", x.clock(), 51);
-    }
-
-    private static void clockStopsAtThousand(Check check) {
-        BuddyBlockScheduler x = new BuddyBlockScheduler();
-        for (int i = 0; i < 19; i++) {
-            x.advance(50);
-        }
-        x.advance(49);
-        x.submit(0, 5, 1, 1);
-        check.refused("3: two ticks at 999", () -> x.advance(2));
-        check.same("3: no tick was made", x.clock(), 999);
-        check.same("3: no job finished", x.state(0), 1);
-        check.same("3: one tick at 999", x.advance(1), 1);
-        check.same("11: the greatest clock", x.clock(), 1000);
-        check.refused("3: a tick at 1000", () -> x.advance(1));
-        check.bad("3: the range is looked at first", () -> x.advance(51));
-        check.same("2: a job at 1000", x.submit(0, 5, 40, 40), 1000);
-        check.same("2: a job that is planned behind 1000", x.submit(0, 5, 40, 40), 1040);
-        check.same("24: makespan behind 1000", x.makespan(), 1080);
     }
 
     private static void countsFinishedJobs(Check check) {
@@ -90,34 +56,5 @@ final class AdvanceTest {
         check.same("3: one finishes", x.advance(2), 1);
         check.same("3: the short one is taken first", x.startTime(2), 2);
         check.same("3: the long one follows", x.startTime(1), 4);
-    }
-
-    private static void movesToALowerBlockWithTheSameStart(Check check) {
-        BuddyBlockScheduler x = new BuddyBlockScheduler();
-        x.reserve(5, 3, 2);
-        x.submit(0, 0, 9, 9);
-        x.submit(0, 0, 9, 9);
-        check.same("3: processor before", x.firstProcessor(1), 1);
-        x.cancel(0);
-        check.same("3: same start", x.startTime(1), 5);
-        check.same("3: lower processor", x.firstProcessor(1), 0);
-        check.same("35: no event of moving", x.eventCount(), 3);
-    }
-
-    /** After the replanning of the cancelling there is a better start for job 2, but nothing finishes at 5. */
-    private static void noReplanningInAQuietTick(Check check) {
-        BuddyBlockScheduler x = new BuddyBlockScheduler();
-        x.submit(0, 4, 12, 12);
-        x.submit(0, 4, 7, 7);
-        x.submit(0, 4, 10, 10);
-        x.submit(0, 4, 2, 2);
-        x.advance(4);
-        x.cancel(0);
-        check.same("3: the long one does not fit yet", x.startTime(2), 7);
-        check.same("3: the short one starts", x.startTime(3), 4);
-        check.same("3: a tick in which nothing finishes", x.advance(1), 0);
-        check.same("3: nothing was replanned", x.startTime(2), 7);
-        check.same("3: the short one finishes", x.advance(1), 1);
-        check.same("3: now it is replanned", x.startTime(2), 6);
     }
 }

@@ -2,28 +2,44 @@ import java.nio.file.Path;
 
 /** Runs every test of the project; the argument is the path of the class's source. */
 public final class AllTests {
-    public static void main(String[] args) throws Exception {
+    private interface Group {
+        void run(Check check) throws Exception;
+    }
+
+    private static final Group[] ORDINARY = {
+        ExamplesTest::run, SubmitTest::run, AdvanceTest::run, CancelTest::run, PreemptTest::run,
+        ReservationTest::run, FairnessTest::run, JobAnswersTest::run, StatisticsTest::run, BlocksTest::run,
+        EventsTest::run,
+    };
+    private static final Group[] EDGES = {
+        SubmitEdges::run, AdvanceEdges::run, CancelEdges::run, PreemptEdges::run, ReservationEdges::run,
+        RefusalEdges::run, FairnessEdges::run, JobEdges::run, StatisticsEdges::run, ProcessorEdges::run,
+        BlockEdges::run, EventEdges::run, SaveEdges::run, LimitEdges::run, RefusedCalls::run,
+    };
+
+    public static void main(String[] args) {
         Check check = new Check();
-        ExamplesTest.run(check);
-        SubmitTest.run(check);
-        AdvanceTest.run(check);
-        CancelTest.run(check);
-        PreemptTest.run(check);
-        ReservationTest.run(check);
-        FairnessTest.run(check);
-        JobAnswersTest.run(check);
-        StatisticsTest.run(check);
-        BlocksTest.run(check);
-        EventsTest.run(check);
-        SaveTest.run(check);
-        FaceTest.run(check);
+        runAll(check, ORDINARY);
+        runAll(check, EDGES);
+        runAll(check, FaceTest::run, RandomRunsTest::run);
         if (args.length > 0) {
-            SourceTest.run(check, Path.of(args[0]));
+            Path source = Path.of(args[0]);
+            runAll(check, toCheck -> SourceTest.run(toCheck, source));
         }
-        RandomRunsTest.run(check);
         System.out.println(check.summary());
         if (check.failures() > 0) {
             System.exit(1);
+        }
+    }
+
+    /** An exception that no test waits for is a failure, and the next group is run none the less. */
+    private static void runAll(Check check, Group... groups) {
+        for (Group group : groups) {
+            try {
+                group.run(check);
+            } catch (Exception e) {
+                check.broke(e);
+            }
         }
     }
 }

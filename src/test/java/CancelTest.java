@@ -1,25 +1,8 @@
-/** Promise 4 (cancel). */
+/** Promise 4 (cancel): ordinary calls; the edges stand in CancelEdges. */
 final class CancelTest {
     static void run(Check check) {
-        wrongInputs(check);
         cancelsAWaitingJob(check);
         cancelsARunningJob(check);
-    }
-
-    private static void wrongInputs(Check check) {
-        BuddyBlockScheduler x = new BuddyBlockScheduler();
-        check.outside("4: cancel(0) without jobs", () -> x.cancel(0));
-        x.submit(0, 0, 2, 2);
-        x.submit(0, 0, 2, 2);
-        for (int job : new int[] {-1, 2, 24, Integer.MAX_VALUE, Integer.MIN_VALUE}) {
-            check.outside("4: cancel(" + job + ")", () -> x.cancel(job));
-        }
-        x.cancel(1);
-        x.advance(2);
-        check.refused("4: a finished job", () -> x.cancel(0));
-        check.refused("4: a cancelled job", () -> x.cancel(1));
-        check.same("4: still finished", x.state(0), 2);
-        check.same("4: still cancelled", x.state(1), 3);
     }
 
     private static void cancelsAWaitingJob(Check check) {

@@ -1,25 +1,9 @@
-/** Promises 12 to 17, 19 and 21: what is asked of one job. */
+/** Promises 12 to 17, 19 and 21: one job through its states; the edges stand in JobEdges. */
 final class JobAnswersTest {
     static void run(Check check) {
-        wrongNumbers(check);
         throughTheStates(check);
         waitTimes(check);
         slowdowns(check);
-    }
-
-    private static void wrongNumbers(Check check) {
-        BuddyBlockScheduler x = new BuddyBlockScheduler();
-        x.submit(0, 0, 1, 1);
-        for (int job : new int[] {-1, 1, 24, Integer.MAX_VALUE, Integer.MIN_VALUE}) {
-            check.outside("13: state(" + job + ")", () -> x.state(job));
-            check.outside("14: startTime(" + job + ")", () -> x.startTime(job));
-            check.outside("15: firstProcessor(" + job + ")", () -> x.firstProcessor(job));
-            check.outside("16: promise(" + job + ")", () -> x.promise(job));
-            check.outside("17: finishTime(" + job + ")", () -> x.finishTime(job));
-            check.outside("18: preemptions(" + job + ")", () -> x.preemptions(job));
-            check.outside("19: waitTime(" + job + ")", () -> x.waitTime(job));
-            check.outside("21: slowdown(" + job + ")", () -> x.slowdown(job));
-        }
     }
 
     private static void throughTheStates(Check check) {

@@ -2,8 +2,10 @@ import java.util.Random;
 
 /** Long runs of calls, with right and wrong arguments, on the class and on the model side by side. */
 final class RandomRunsTest {
-    private static final int RUNS = 400;
-    private static final int CALLS = 160;
+    private static final int RUNS = 3000;
+    // What an object answers after its 512th call is free.
+    private static final int CALLS = 512;
+    private static final int CALLS_TO_LOOK_ROUND = 100;
     private static final int[] ODD = {
         Integer.MIN_VALUE, Integer.MIN_VALUE + 1, -100, -2, -1, 0, 1, 2, 5, 6, 7, 9, 10, 16, 23, 24, 31, 32, 33, 40,
         41, 50, 51, 60, 64, 100, 999, 1000, 1001, Integer.MAX_VALUE - 1, Integer.MAX_VALUE,
@@ -15,8 +17,10 @@ final class RandomRunsTest {
     private final int largestOrder;
     private final int longest;
     private final int longestAdvance;
+    private final int asksPerChange;
     private final BuddyBlockScheduler x = new BuddyBlockScheduler();
     private final Model m = new Model();
+    private int calls = 0;
 
     private RandomRunsTest(Check check, int seed) {
         this.check = check;
@@ -26,23 +30,27 @@ final class RandomRunsTest {
         largestOrder = 1 + random.nextInt(5);
         longest = 3 + random.nextInt(38);
         longestAdvance = seed % 8 == 0 ? 50 : 1 + random.nextInt(8);
+        asksPerChange = random.nextInt(4);
     }
 
     static void run(Check check) {
         for (int seed = 0; seed < RUNS && check.failures() < 20; seed++) {
             RandomRunsTest test = new RandomRunsTest(check, seed);
-            for (int i = 0; i < CALLS && check.failures() < 20; i++) {
+            while (test.calls < CALLS - CALLS_TO_LOOK_ROUND && check.failures() < 20) {
                 test.change();
-                test.ask();
-                if (i % 8 == 0) {
-                    test.askAll();
+                for (int i = 0; i < test.asksPerChange; i++) {
+                    test.ask();
                 }
+            }
+            while (test.calls < CALLS) {
+                test.ask();
             }
         }
     }
 
     private void same(String call, Check.Call got, Check.Call want) {
-        check.same("random run " + seed + ": " + call, Check.outcome(got), Check.outcome(want));
+        calls++;
+        check.same("random run " + seed + ", call " + calls + ": " + call, Check.outcome(got), Check.outcome(want));
     }
 
     private int upTo(int greatest) {
@@ -74,8 +82,10 @@ final class RandomRunsTest {
             boolean on = random.nextBoolean();
             same("setFair(" + on + ")", () -> x.setFair(on), () -> m.setFair(on));
         } else if (choice < 93) {
-            x.save();
-            m.save();
+            same("save()", () -> {
+                x.save();
+                return 0;
+            }, m::save);
         } else if (choice < 95) {
             same("restore()", x::restore, m::restore);
         } else {
@@ -113,80 +123,90 @@ final class RandomRunsTest {
         int b = odd();
         int c = odd();
         int d = odd();
-        same("submit(" + a + ", " + b + ", " + c + ", " + d + ")", () -> x.submit(a, b, c, d), () -> m.submit(a, b, c, d));
-        same("reserve(" + a + ", " + b + ", " + c + ")", () -> x.reserve(a, b, c), () -> m.reserve(a, b, c));
-        same("preempt(" + a + ", " + b + ")", () -> x.preempt(a, b), () -> m.preempt(a, b));
-        same("cancel(" + a + ")", () -> x.cancel(a), () -> m.cancel(a));
-        if (a > 50 || a < 1) {
+        int choice = random.nextInt(5);
+        if (choice == 0) {
+            same("submit(" + a + ", " + b + ", " + c + ", " + d + ")",
+                    () -> x.submit(a, b, c, d), () -> m.submit(a, b, c, d));
+        } else if (choice == 1) {
+            same("reserve(" + a + ", " + b + ", " + c + ")", () -> x.reserve(a, b, c), () -> m.reserve(a, b, c));
+        } else if (choice == 2) {
+            same("preempt(" + a + ", " + b + ")", () -> x.preempt(a, b), () -> m.preempt(a, b));
+        } else if (choice == 3) {
+            same("cancel(" + a + ")", () -> x.cancel(a), () -> m.cancel(a));
+        } else {
             same("advance(" + a + ")", () -> x.advance(a), () -> m.advance(a));
         }
     }
 
-    /** Some questions after each change, with odd arguments among them. */
+    /** One question, with odd arguments now and then. */
     private void ask() {
-        int a = random.nextInt(4) == 0 ? odd() : upTo(31);
-        int b = random.nextInt(4) == 0 ? odd() : upTo(60);
-        int c = random.nextInt(4) == 0 ? odd() : 1 + upTo(39);
-        int order = random.nextInt(8) == 0 ? odd() : upTo(5);
-        int from = random.nextInt(8) == 0 ? odd() : Math.min(1000, m.clock() + upTo(40));
-        same("clock()", x::clock, m::clock);
-        same("refusal()", x::refusal, m::refusal);
-        same("makespan()", x::makespan, m::makespan);
-        same("jobCount()", x::jobCount, m::jobCount);
-        same("eventCount()", x::eventCount, m::eventCount);
-        same("ownerAt(" + a + ", " + from + ")", () -> x.ownerAt(a, from), () -> m.ownerAt(a, from));
-        same("freeProcessors(" + from + ")", () -> x.freeProcessors(from), () -> m.freeProcessors(from));
-        same("earliestStart(" + order + ", " + c + ")", () -> x.earliestStart(order, c), () -> m.earliestStart(order, c));
-        same("lowestBlock(" + order + ", " + from + ", " + c + ")",
-                () -> x.lowestBlock(order, from, c), () -> m.lowestBlock(order, from, c));
-        same("blockStarts(" + order + ", " + a + ")", () -> x.blockStarts(order, a), () -> m.blockStarts(order, a));
-        same("event(" + b + ", " + order + ")", () -> x.event(b, order), () -> m.event(b, order));
-        same("usage(" + a + ")", () -> x.usage(a), () -> m.usage(a));
-        same("freeBlocks(" + order + ")", () -> x.freeBlocks(order), () -> m.freeBlocks(order));
-        same("reservedProcessor(" + a + ")", () -> x.reservedProcessor(a), () -> m.reservedProcessor(a));
-        askJob(a);
+        int job = random.nextInt(12) == 0 ? odd() : upTo(Math.max(0, m.jobCount() - 1));
+        int order = random.nextInt(12) == 0 ? odd() : upTo(5);
+        int unit = random.nextInt(12) == 0 ? odd() : Math.max(0, Math.min(1000, m.clock() - 5 + upTo(45)));
+        switch (random.nextInt(4)) {
+            case 0 -> askFigure(order);
+            case 1 -> askJob(job);
+            case 2 -> askBlock(order, unit);
+            default -> askUnit(unit);
+        }
+    }
+
+    private void askFigure(int small) {
+        switch (random.nextInt(12)) {
+            case 0 -> same("clock()", x::clock, m::clock);
+            case 1 -> same("refusal()", x::refusal, m::refusal);
+            case 2 -> same("makespan()", x::makespan, m::makespan);
+            case 3 -> same("jobCount()", x::jobCount, m::jobCount);
+            case 4 -> same("eventCount()", x::eventCount, m::eventCount);
+            case 5 -> same("averageWait()", x::averageWait, m::averageWait);
+            case 6 -> same("utilization()", x::utilization, m::utilization);
+            case 7 -> same("largestFree()", x::largestFree, m::largestFree);
+            case 8 -> same("fragmentation()", x::fragmentation, m::fragmentation);
+            case 9 -> same("busiestBlock()", x::busiestBlock, m::busiestBlock);
+            case 10 -> same("usage(" + small + ")", () -> x.usage(small), () -> m.usage(small));
+            default -> same("reservedProcessor(" + small + ")",
+                    () -> x.reservedProcessor(small), () -> m.reservedProcessor(small));
+        }
     }
 
     private void askJob(int job) {
-        same("state(" + job + ")", () -> x.state(job), () -> m.state(job));
-        same("startTime(" + job + ")", () -> x.startTime(job), () -> m.startTime(job));
-        same("firstProcessor(" + job + ")", () -> x.firstProcessor(job), () -> m.firstProcessor(job));
-        same("promise(" + job + ")", () -> x.promise(job), () -> m.promise(job));
-        same("finishTime(" + job + ")", () -> x.finishTime(job), () -> m.finishTime(job));
-        same("preemptions(" + job + ")", () -> x.preemptions(job), () -> m.preemptions(job));
-        same("waitTime(" + job + ")", () -> x.waitTime(job), () -> m.waitTime(job));
-        same("slowdown(" + job + ")", () -> x.slowdown(job), () -> m.slowdown(job));
+        switch (random.nextInt(8)) {
+            case 0 -> same("state(" + job + ")", () -> x.state(job), () -> m.state(job));
+            case 1 -> same("startTime(" + job + ")", () -> x.startTime(job), () -> m.startTime(job));
+            case 2 -> same("firstProcessor(" + job + ")", () -> x.firstProcessor(job), () -> m.firstProcessor(job));
+            case 3 -> same("promise(" + job + ")", () -> x.promise(job), () -> m.promise(job));
+            case 4 -> same("finishTime(" + job + ")", () -> x.finishTime(job), () -> m.finishTime(job));
+            case 5 -> same("preemptions(" + job + ")", () -> x.preemptions(job), () -> m.preemptions(job));
+            case 6 -> same("waitTime(" + job + ")", () -> x.waitTime(job), () -> m.waitTime(job));
+            default -> same("slowdown(" + job + ")", () -> x.slowdown(job), () -> m.slowdown(job));
+        }
     }
 
-    private void askAll() {
-        for (int job = -1; job <= m.jobCount(); job++) {
-            askJob(job);
+    private void askBlock(int order, int from) {
+        int length = random.nextInt(12) == 0 ? odd() : 1 + upTo(39);
+        int blocks = order >= 0 && order <= 5 ? 32 >> order : 1;
+        int first = random.nextInt(6) == 0 ? odd() : upTo(blocks - 1) << order;
+        switch (random.nextInt(4)) {
+            case 0 -> same("freeBlocks(" + order + ")", () -> x.freeBlocks(order), () -> m.freeBlocks(order));
+            case 1 -> same("earliestStart(" + order + ", " + length + ")",
+                    () -> x.earliestStart(order, length), () -> m.earliestStart(order, length));
+            case 2 -> same("lowestBlock(" + order + ", " + from + ", " + length + ")",
+                    () -> x.lowestBlock(order, from, length), () -> m.lowestBlock(order, from, length));
+            default -> same("blockStarts(" + order + ", " + first + ")",
+                    () -> x.blockStarts(order, first), () -> m.blockStarts(order, first));
         }
-        for (int i = 0; i < 60; i++) {
-            int index = i;
-            for (int k = 0; k < 3; k++) {
-                int column = k;
-                same("event(" + i + ", " + k + ")", () -> x.event(index, column), () -> m.event(index, column));
-            }
-        }
-        for (int i = -1; i < 7; i++) {
-            int number = i;
-            same("usage(" + i + ")", () -> x.usage(number), () -> m.usage(number));
-            same("freeBlocks(" + i + ")", () -> x.freeBlocks(number), () -> m.freeBlocks(number));
-            same("reservedProcessor(" + i + ")", () -> x.reservedProcessor(number), () -> m.reservedProcessor(number));
-        }
-        same("averageWait()", x::averageWait, m::averageWait);
-        same("utilization()", x::utilization, m::utilization);
-        same("largestFree()", x::largestFree, m::largestFree);
-        same("fragmentation()", x::fragmentation, m::fragmentation);
-        same("busiestBlock()", x::busiestBlock, m::busiestBlock);
-        for (int unit = Math.max(0, m.clock() - 3); unit < m.makespan() + 2; unit += 1 + unit % 5) {
-            int then = unit;
-            same("freeProcessors(" + unit + ")", () -> x.freeProcessors(then), () -> m.freeProcessors(then));
-            for (int p = 0; p < 32; p += 3) {
-                int processor = p;
-                same("ownerAt(" + p + ", " + unit + ")", () -> x.ownerAt(processor, then), () -> m.ownerAt(processor, then));
-            }
+    }
+
+    private void askUnit(int unit) {
+        int processor = random.nextInt(12) == 0 ? odd() : upTo(31);
+        int index = random.nextInt(12) == 0 ? odd() : upTo(59);
+        int column = random.nextInt(12) == 0 ? odd() : upTo(2);
+        switch (random.nextInt(3)) {
+            case 0 -> same("ownerAt(" + processor + ", " + unit + ")",
+                    () -> x.ownerAt(processor, unit), () -> m.ownerAt(processor, unit));
+            case 1 -> same("freeProcessors(" + unit + ")", () -> x.freeProcessors(unit), () -> m.freeProcessors(unit));
+            default -> same("event(" + index + ", " + column + ")",
+                    () -> x.event(index, column), () -> m.event(index, column));
         }
     }
 }

@@ -4,15 +4,18 @@ import java.nio.file.Path;
 import java.util.regex.Matcher;
 import java.util.regex.Pattern;
 
-/** Those rules of LANGUAGE.md that can be seen in the text of the source. */
+/** Those rules of LANGUAGE.md, and of how the class is to be written, that can be seen in the text of the source. */
 final class SourceTest {
     private static final String[] FORBIDDEN = {
-        "\\btry\\b", "\\bcatch\\b", "\\bfinally\\b", "\\bsynchronized\\b", "\\bassert\\b", "->", "::",
-        "\\bstatic\\s*\\{", "\\bpackage\\b", "\\bprotected\\b", "Exact\\b", "\\bimport\\s+static\\b",
-        "\\bSystem\\.(?!arraycopy)", "\\bMath\\.(?!max|min)", "\\bThread\\b", "\\bRandom\\b",
-        "\\.(equals|hashCode|toString)\\b", "\\bgetMessage\\b", "\"\\s*\\+", "\\+\\s*\"",
+        "\\bfinally\\b", "\\bsynchronized\\b", "\\bassert\\b", "::", "\\)\\s*->", "\\bstatic\\s*\\{", "\\bpackage\\b",
+        "\\bprotected\\b", "Exact\\b", "\\bimport\\s+static\\b", "\\bSystem\\.(?!arraycopy\\b)",
+        "\\bMath\\.(?!max\\b|min\\b|abs\\b|floorDiv\\b|floorMod\\b)", "\\bThread\\b", "\\bRandom\\b", "\\brandom\\b",
+        "\\bhashCode\\b", "\\bgetMessage\\b", "\"\\s*\\+", "\\+\\s*\"", "\\btry\\s*\\(",
+        "catch\\s*\\([^)]*\\b(Throwable|Error|Exception|RuntimeException|ArrayIndexOutOfBoundsException"
+            + "|NullPointerException|ClassCastException|NegativeArraySizeException|ArrayStoreException)\\b",
     };
     private static final int MAX_METHOD_LINES = 60;
+    private static final int MAX_PARAMETERS = 7;
 
     static void run(Check check, Path path) throws IOException {
         String source = Files.readString(path);
@@ -21,16 +24,18 @@ final class SourceTest {
             check.same("source: " + pattern, Pattern.compile(pattern).matcher(code).find(), false);
         }
         Matcher imports = Pattern.compile("\\bimport\\s+([^;]+);").matcher(code);
+        Pattern allowed = Pattern.compile("java\\.util\\.(NoSuchElementException|ArrayList|List|Arrays|Iterator)");
         while (imports.find()) {
-            check.same("source: import", imports.group(1), "java.util.NoSuchElementException");
+            String name = imports.group(1);
+            check.same("source: import " + name, allowed.matcher(name).matches(), true);
         }
         check.same("source: ASCII alone", source.chars().allMatch(c -> c < 128), true);
-        rowsAreMadeInConstructors(check, code);
+        nothingIsMadeByCalls(check, code);
         methodsAreShort(check, code);
     }
 
-    /** Behind "new" stands an exception that is thrown, or a field gets its row. */
-    private static void rowsAreMadeInConstructors(Check check, String code) {
+    /** The rows are made once and used again: a call makes nothing but the exception that it throws. */
+    private static void nothingIsMadeByCalls(Check check, String code) {
         for (String line : code.split("\n")) {
             if (line.contains("new ")) {
                 String text = line.trim();
@@ -44,18 +49,17 @@ final class SourceTest {
     /** A method's last line is the first brace that stands as far in as its first line. */
     private static void methodsAreShort(Check check, String code) {
         String[] lines = code.split("\n");
-        int found = 0;
         for (int i = 0; i < lines.length; i++) {
             if (lines[i].matches("( {4}| {8})(?!if|for|while|throw|return)\\w[\\w\\[\\] ]*\\(.*[^;]")) {
-                found++;
                 String end = lines[i].replaceAll("\\S.*", "") + "}";
                 int last = i;
                 while (last < lines.length && !lines[last].equals(end)) {
                     last++;
                 }
                 check.same("source: short: " + lines[i].trim(), last - i < MAX_METHOD_LINES, true);
+                int parameters = lines[i].replaceAll("\\).*", "").replaceAll("[^,]", "").length() + 1;
+                check.same("source: few parameters: " + lines[i].trim(), parameters <= MAX_PARAMETERS, true);
             }
         }
-        check.same("source: methods found", found > 70, true);
     }
 }

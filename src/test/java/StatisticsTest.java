@@ -1,6 +1,4 @@
-import java.util.NoSuchElementException;
-
-/** Promises 20 (averageWait), 22 (usage), 23 (utilization), 24 (makespan), 32 (blockStarts) and 33 (busiestBlock). */
+/** Promises 20, 22 to 24, 32 and 33: ordinary figures; the edges stand in StatisticsEdges and BlockEdges. */
 final class StatisticsTest {
     static void run(Check check) {
         averageOfWaits(check);
@@ -13,12 +11,12 @@ final class StatisticsTest {
 
     private static void averageOfWaits(Check check) {
         BuddyBlockScheduler x = new BuddyBlockScheduler();
-        check.fails("20: no job", ArithmeticException.class, x::averageWait);
+        check.undefined("20: no job", x::averageWait);
         x.reserve(5, 0, 1);
         x.submit(0, 5, 1, 1);
-        check.fails("20: no job was started", ArithmeticException.class, x::averageWait);
+        check.undefined("20: no job was started", x::averageWait);
         x.cancel(0);
-        check.fails("20: a job that never started", ArithmeticException.class, x::averageWait);
+        check.undefined("20: a job that never started", x::averageWait);
         x.submit(0, 5, 3, 3);
         x.submit(0, 5, 3, 3);
         x.submit(0, 5, 3, 3);
@@ -41,9 +39,6 @@ final class StatisticsTest {
 
     private static void usages(Check check) {
         BuddyBlockScheduler x = new BuddyBlockScheduler();
-        for (int user : new int[] {-1, 4, Integer.MAX_VALUE, Integer.MIN_VALUE}) {
-            check.outside("22: usage(" + user + ")", () -> x.usage(user));
-        }
         x.submit(2, 3, 9, 5);
         x.submit(2, 0, 9, 9);
         x.submit(3, 1, 9, 9);
@@ -68,11 +63,11 @@ final class StatisticsTest {
 
     private static void utilizations(Check check) {
         BuddyBlockScheduler x = new BuddyBlockScheduler();
-        check.fails("23: at 0", ArithmeticException.class, x::utilization);
+        check.undefined("23: at 0", x::utilization);
         x.submit(0, 4, 3, 3);
         x.submit(1, 2, 9, 9);
         x.submit(3, 0, 1, 1);
-        check.fails("23: at 0 with jobs", ArithmeticException.class, x::utilization);
+        check.undefined("23: at 0 with jobs", x::utilization);
         x.advance(3);
         check.same("23: at 3", x.utilization(), 61.0 / 96.0);
         x.advance(4);
@@ -102,19 +97,6 @@ final class StatisticsTest {
 
     private static void startsOfBlocks(Check check) {
         BuddyBlockScheduler x = new BuddyBlockScheduler();
-        int[][] wrong = {
-            {-1, 0}, {6, 0}, {0, -1}, {0, 32}, {1, 1}, {2, 2}, {3, 12}, {4, 8}, {5, 1}, {5, 16}, {5, 32},
-            {1, 31}, {4, -16}, {Integer.MIN_VALUE, 0}, {Integer.MAX_VALUE, 0}, {0, Integer.MAX_VALUE},
-            {5, Integer.MIN_VALUE}, {32, 0},
-        };
-        for (int[] w : wrong) {
-            check.bad("32: blockStarts" + java.util.Arrays.toString(w), () -> x.blockStarts(w[0], w[1]));
-        }
-        for (int order = 0; order < 6; order++) {
-            for (int first = 0; first < 32; first += 1 << order) {
-                check.same("32: none at first", x.blockStarts(order, first), 0);
-            }
-        }
         x.submit(0, 2, 2, 2);
         x.submit(0, 2, 5, 5);
         x.submit(0, 0, 5, 5);
@@ -135,10 +117,10 @@ final class StatisticsTest {
 
     private static void busiest(Check check) {
         BuddyBlockScheduler x = new BuddyBlockScheduler();
-        check.fails("33: no job", NoSuchElementException.class, x::busiestBlock);
+        check.missing("33: no job", x::busiestBlock);
         x.reserve(5, 0, 1);
         x.submit(0, 4, 9, 9);
-        check.fails("33: no start", NoSuchElementException.class, x::busiestBlock);
+        check.missing("33: no start", x::busiestBlock);
         x.advance(1);
         check.same("33: one start", x.busiestBlock(), 400);
         x.submit(0, 3, 9, 9);
