@@ -15,6 +15,8 @@ final class SaveEdges {
         savedStateIsNotTouched(check);
         fullEventsComeBack(check);
         allJobsAndReservationsComeBack(check);
+        eachOfAllJobsComesBack(check);
+        startsOfTheLastBlockComeBack(check);
         placesAreFreeAgain(check);
         refusalIsNotSaved(check);
         refusalIsNotRestored(check);
@@ -250,6 +252,52 @@ final class SaveEdges {
         };
         check.sameLines("37: 24 jobs and 6 reservations", Answers.after(all.then(SAVE).then(nothing).then(RESTORE)),
                 Answers.after(all));
+    }
+
+    private static void eachOfAllJobsComesBack(Check check) {
+        Calls side = x -> {
+            for (int job = 0; job < 24; job++) {
+                x.submit(job % 4, 0, 9, 7);
+            }
+            x.advance(1);
+        };
+        Calls preempted = x -> {
+            for (int job = 0; job < 24; job++) {
+                x.preempt(job, 5);
+            }
+            x.advance(3);
+            for (int job = 0; job < 24; job++) {
+                x.preempt(job, 9);
+            }
+        };
+        Calls later = x -> x.advance(6);
+        Calls restored = side.then(SAVE).then(preempted).then(RESTORE);
+        check.sameLines("37: 24 that run", Answers.after(restored), Answers.after(side));
+        check.sameLines("37: 24 that finish", Answers.after(restored.then(later)), Answers.after(side.then(later)));
+        check.sameLines("37: 24 that are preempted", Answers.after(restored.then(preempted)),
+                Answers.after(side.then(preempted)));
+        Calls queue = x -> {
+            for (int job = 0; job < 24; job++) {
+                x.submit(job % 4, 5, 2, 2);
+            }
+        };
+        Calls ended = x -> x.advance(48);
+        check.sameLines("37: 24 that wait", Answers.after(queue.then(SAVE).then(ended).then(RESTORE)), Answers.after(queue));
+        Calls all = queue.then(ended);
+        check.sameLines("37: 24 that are over", Answers.after(all.then(SAVE).then(later).then(RESTORE)), Answers.after(all));
+    }
+
+    private static void startsOfTheLastBlockComeBack(Check check) {
+        BuddyBlockScheduler x = new BuddyBlockScheduler();
+        for (int order = 4; order >= 0; order--) {
+            x.submit(0, order, 9, 9);
+        }
+        x.submit(0, 0, 9, 9);
+        x.save();
+        x.preempt(5, 0);
+        check.same("32: two starts", x.blockStarts(0, 31), 2);
+        x.restore();
+        check.same("32: one start", x.blockStarts(0, 31), 1);
     }
 
     private static void placesAreFreeAgain(Check check) {
