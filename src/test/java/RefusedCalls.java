@@ -120,7 +120,7 @@ final class RefusedCalls {
         attempt(x, y -> y.reserve(0, 0, 1));
     }
 
-    /** A job that runs and one that waits, both for ever, and a reservation. */
+    /** A job that runs and one that waits, both for ever, and a reservation: no processor is free. */
     private static void endOfTheClock(BuddyBlockScheduler x) {
         x.submit(0, 2, 9, 9);
         AdvanceEdges.toClock(x, 999);
@@ -269,5 +269,7 @@ final class RefusedCalls {
         at.refuse("reserve(5, 1000, 1), no block", STATE, 3, x -> x.reserve(5, 1000, 1));
         at.refuse("preempt(2, 0), waiting", STATE, x -> x.preempt(2, 0));
         at.refuse("lowestBlock(5, 1000, 40)", MISSING, x -> x.lowestBlock(5, 1000, 40));
+        at.refuse("largestFree(), none", MISSING, BuddyBlockScheduler::largestFree);
+        at.refuse("fragmentation(), none", MISSING, BuddyBlockScheduler::fragmentation);
     }
 }
