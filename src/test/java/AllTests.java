@@ -1,6 +1,6 @@
 import java.nio.file.Path;
 
-/** Runs every test of the project; the argument is the path of the class's source. */
+/** Runs every test of the project; an argument is the project's directory, if that is not the current one. */
 public final class AllTests {
     private interface Group {
         void run(Check check) throws Exception;
@@ -22,10 +22,9 @@ public final class AllTests {
         runAll(check, ORDINARY);
         runAll(check, EDGES);
         runAll(check, FaceTest::run, RandomRunsTest::run);
-        if (args.length > 0) {
-            Path source = Path.of(args[0]);
-            runAll(check, toCheck -> SourceTest.run(toCheck, source));
-        }
+        Path root = Path.of(args.length > 0 ? args[0] : ".");
+        Path source = root.resolve("src/main/java/BuddyBlockScheduler.java");
+        runAll(check, toCheck -> SourceTest.run(toCheck, source), toCheck -> ReadmeTest.run(toCheck, root));
         System.out.println(check.summary());
         if (check.failures() > 0) {
             System.exit(1);

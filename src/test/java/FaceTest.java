@@ -2,8 +2,10 @@ import java.lang.reflect.Constructor;
 import java.lang.reflect.Field;
 import java.lang.reflect.Method;
 import java.lang.reflect.Modifier;
+import java.util.ArrayList;
 import java.util.Arrays;
 import java.util.HashSet;
+import java.util.List;
 import java.util.Set;
 import java.util.TreeSet;
 
@@ -14,6 +16,8 @@ final class FaceTest {
     private static final String STATE = "IllegalStateException";
     private static final String NONE = "NoSuchElementException";
     private static final String MATH = "ArithmeticException";
+    private static final int MAX_CLASSES = 12;
+    private static final int MAX_FIELDS = 20;
     private static final String[] FACE = {
         "int submit(int,int,int,int) " + ARG + " " + STATE, "int advance(int) " + ARG + " " + STATE,
         "int cancel(int) " + OUT + " " + STATE, "int preempt(int,int) " + OUT + " " + ARG + " " + STATE,
@@ -48,6 +52,28 @@ final class FaceTest {
         check.same("face: constructors", constructors.length, 1);
         check.same("face: of no parameters", constructors[0].getParameterCount(), 0);
         check.same("face: and public", Modifier.isPublic(constructors[0].getModifiers()), true);
+        classesAreSmall(check, face);
+    }
+
+    /** Rules 1, 2, 5 and 11 of LANGUAGE.md: the classes inside, their fields, and no static state. */
+    private static void classesAreSmall(Check check, Class<?> face) {
+        List<Class<?>> classes = new ArrayList<>(Arrays.asList(face.getDeclaredClasses()));
+        for (Class<?> inside : classes) {
+            check.same("face: static " + inside.getName(), Modifier.isStatic(inside.getModifiers()), true);
+            check.same("face: hidden " + inside.getName(), Modifier.isPublic(inside.getModifiers()), false);
+        }
+        classes.add(face);
+        check.same("face: at most twelve classes", classes.size() <= MAX_CLASSES, true);
+        for (Class<?> one : classes) {
+            int fields = 0;
+            for (Field field : one.getDeclaredFields()) {
+                boolean isStatic = Modifier.isStatic(field.getModifiers());
+                boolean constant = Modifier.isFinal(field.getModifiers()) && field.getType() == int.class;
+                check.same("face: no static state in " + field.getName(), !isStatic || constant, true);
+                fields += isStatic ? 0 : 1;
+            }
+            check.same("face: at most twenty fields in " + one.getName(), fields <= MAX_FIELDS, true);
+        }
     }
 
     private static void collectMethods(Class<?> face, Set<String> visible, Set<String> hidden, Set<String> names) {
