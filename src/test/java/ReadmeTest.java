@@ -160,7 +160,7 @@ final class ReadmeTest {
         }
     }
 
-    /** What stands between single backquotes is a call, a program, a path, or a class of the tests. */
+    /** Between single backquotes stands a call, a program, a path, or a class of the tests; ../shared is not ours. */
     private void namedFilesAreThere() throws IOException {
         Set<String> calls = signatures().keySet();
         String words = readme.replaceAll("(?s)```.*?```", "");
@@ -168,7 +168,7 @@ final class ReadmeTest {
         while (names.find()) {
             String name = names.group(1);
             boolean known = calls.contains(name.replaceAll("\\(.*", "")) || name.equals("javac") || name.equals("java")
-                    || Files.exists(root.resolve(name))
+                    || name.startsWith("../shared/") || Files.exists(root.resolve(name))
                     || Files.exists(root.resolve("src/test/java/" + name + ".java"));
             check.same("README: there is " + name, known, true);
         }
